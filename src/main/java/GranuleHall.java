@@ -1266,13 +1266,17 @@ public final class GranuleHall {
             System.arraycopy(hash, 0, row, from, words);
         }
 
+        private static int turned(int word, int right) {
+            return (word >>> right) | (word << (32 - right));
+        }
+
         private void spread(int block) {
             System.arraycopy(text, block, schedule, 0, BLOCK);
             for (int t = BLOCK; t < ROUNDS; t++) {
                 int near = schedule[t - 2];
                 int far = schedule[t - 15];
-                int s1 = Integer.rotateRight(near, 17) ^ Integer.rotateRight(near, 19) ^ (near >>> 10);
-                int s0 = Integer.rotateRight(far, 7) ^ Integer.rotateRight(far, 18) ^ (far >>> 3);
+                int s1 = turned(near, 17) ^ turned(near, 19) ^ (near >>> 10);
+                int s0 = turned(far, 7) ^ turned(far, 18) ^ (far >>> 3);
                 schedule[t] = s1 + schedule[t - 7] + s0 + schedule[t - 16];
             }
         }
@@ -1287,9 +1291,9 @@ public final class GranuleHall {
             int g = hash[6];
             int h = hash[7];
             for (int t = 0; t < ROUNDS; t++) {
-                int s1 = Integer.rotateRight(e, 6) ^ Integer.rotateRight(e, 11) ^ Integer.rotateRight(e, 25);
+                int s1 = turned(e, 6) ^ turned(e, 11) ^ turned(e, 25);
                 int t1 = h + s1 + ((e & f) ^ (~e & g)) + ROUND[t] + schedule[t];
-                int s0 = Integer.rotateRight(a, 2) ^ Integer.rotateRight(a, 13) ^ Integer.rotateRight(a, 22);
+                int s0 = turned(a, 2) ^ turned(a, 13) ^ turned(a, 22);
                 int t2 = s0 + ((a & b) ^ (a & c) ^ (b & c));
                 h = g;
                 g = f;

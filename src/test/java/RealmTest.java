@@ -35,6 +35,7 @@ final class RealmTest {
     Due.done("6: a second REALM", h, h.create(4, 5));
     Due.is("6: two REALMS", 2, h.count(8));
     Due.words("6: its RIM", Sha.of(1, Scene.SIZE), Scene.measurement(h, 7, 0));
+    Due.words("6: the second's RIM", Sha.of(1, Scene.SIZE), Scene.measurement(h, 4, 0));
     GranuleHall small = new GranuleHall(16);
     small.delegate(14);
     small.delegate(15);

@@ -134,6 +134,10 @@ final class TableTest {
     Due.is("13: EMPTY", 0, h.walk(RD, 2048, 3, 2));
     Due.is("13: RTTS", 5, h.realm(RD, 3));
 
+    Due.done("9: a REC where the RTT was", h, 0, h.rec(Scene.T3, RD, Scene.PARAMS));
+    Due.is("13: nothing is left of its ENTRIES in a REC", 8, h.realm(RD, 5));
+    Due.is("13: nor astray", 0, h.astray());
+
     GranuleHall lost = Scene.created();
     lost.table(RD, 2, 512, 1);
     lost.untable(RD, 512, 1);
