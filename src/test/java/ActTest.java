@@ -7,8 +7,8 @@ final class ActTest {
   private static final int MAX = Integer.MAX_VALUE;
 
   public static void main(String[] args) {
-    noneRuns(Scene.active());
-    noneRuns(Scene.off());
+    noneRuns(Scene.active().object);
+    noneRuns(Scene.off().object);
     move();
     fetch();
     put();
@@ -46,7 +46,7 @@ final class ActTest {
   }
 
   private static void move() {
-    GranuleHall h = Scene.running();
+    GranuleHall h = Scene.running().object;
     for (int bad : new int[] {-1, 8, MIN, MAX}) {
       fault("22: move(" + bad + ", 1)", h, h.count(10), h.move(bad, 1));
     }
@@ -57,7 +57,7 @@ final class ActTest {
   }
 
   private static void fetch() {
-    GranuleHall h = Scene.running();
+    GranuleHall h = Scene.running().object;
     int[][] bad = {
       {-1, 5, 0}, {8, 5, 0}, {MIN, 5, 0}, {MAX, 5, 0}, {0, -1, 0}, {0, 4096, 0}, {0, MIN, 0}, {0, MAX, 0},
       {0, 5, -1}, {0, 5, 32}, {0, 5, MIN}, {0, 5, MAX}, {8, 6, 0}, {0, 6, 32}, {0, 2048, 32}, {8, 2048, 0},
@@ -81,7 +81,7 @@ final class ActTest {
   }
 
   private static void put() {
-    GranuleHall h = Scene.running();
+    GranuleHall h = Scene.running().object;
     Due.done("24: put(7, 5, 31)", h, 0, h.put(7, 5, 31));
     h.fetch(1, 5, 31);
     Due.is("24: WORD 31", 107, h.context(REC, 1));
@@ -91,7 +91,7 @@ final class ActTest {
   }
 
   private static void shared() {
-    GranuleHall h = Scene.running();
+    GranuleHall h = Scene.running().object;
     h.map(RD, 2050, Scene.HOST);
     h.map(RD, 2051, RUN);
     h.store(Scene.HOST, 9, 77);
@@ -116,7 +116,7 @@ final class ActTest {
   private static void abort() {
     int[] pages = {6, 2048, 2056, 4095};
     for (int page : pages) {
-      GranuleHall h = Scene.running();
+      GranuleHall h = Scene.running().object;
       for (int i = 0; i < 32; i++) {
         h.store(RUN, i, 1);
       }
@@ -133,14 +133,14 @@ final class ActTest {
       Due.words("24: ABORT at " + page, Scene.page(5, page, 1), Scene.loaded(h, RUN));
       Due.is("24: EXITS", 2, h.count(9));
     }
-    GranuleHall lost = Scene.running();
+    GranuleHall lost = Scene.running().object;
     lost.undata(RD, 5);
     Due.is("23: DESTROYED", 2, lost.fetch(1, 5, 0));
     lost.unknown(RD, 10, 5);
     lost.enter(REC, RUN);
     Due.is("23: ASSIGNED, DESTROYED", 2, lost.fetch(1, 5, 0));
     Due.words("23: ABORT", Scene.page(5, 5, 0), Scene.loaded(lost, RUN));
-    GranuleHall wide = Scene.created();
+    GranuleHall wide = Scene.created().object;
     wide.ripas(RD, 600);
     wide.store(Scene.PARAMS, 8, 1);
     wide.rec(REC, RD, Scene.PARAMS);
@@ -151,7 +151,7 @@ final class ActTest {
   }
 
   private static void yieldAndOff() {
-    GranuleHall h = Scene.running();
+    GranuleHall h = Scene.running().object;
     for (int i = 0; i < 32; i++) {
       h.store(RUN, i, 1);
     }
@@ -171,7 +171,7 @@ final class ActTest {
   }
 
   private static void state() {
-    GranuleHall h = Scene.running();
+    GranuleHall h = Scene.running().object;
     for (int bad : new int[] {-1, 2048, 4095, 4096, MIN, MAX}) {
       fault("27: state(" + bad + ")", h, h.count(10), h.state(bad));
     }
@@ -187,7 +187,7 @@ final class ActTest {
   }
 
   private static void ask() {
-    GranuleHall h = Scene.running();
+    GranuleHall h = Scene.running().object;
     int[][] bad = {
       {5, 5, 1}, {6, 5, 1}, {-1, 5, 1}, {0, 2049, 1}, {2048, 2048, 1}, {2048, 2049, 1}, {MIN, 5, 0}, {0, MAX, 0},
       {0, 0, 0}, {0, 1, 2}, {0, 1, -1}, {0, 1, MIN}, {0, 1, MAX}, {-2, -1, 0}
@@ -210,7 +210,7 @@ final class ActTest {
   }
 
   private static void call() {
-    GranuleHall h = Scene.running();
+    GranuleHall h = Scene.running().object;
     for (int bad : new int[] {-1, 2048, 4096, MIN, MAX}) {
       fault("29: call(" + bad + ")", h, h.count(10), h.call(bad));
     }
@@ -234,13 +234,13 @@ final class ActTest {
   }
 
   private static void runTakenAway() {
-    GranuleHall h = Scene.running();
+    GranuleHall h = Scene.running().object;
     h.delegate(RUN);
     Due.done("25: RUN is DELEGATED", h, 2, h.yield1());
     h.undelegate(RUN);
     Due.words("25: nothing is written", Scene.page(), Scene.loaded(h, RUN));
 
-    GranuleHall call = Scene.running();
+    GranuleHall call = Scene.running().object;
     call.delegate(RUN);
     call.unknown(RD, RUN, 6);
     Due.done("29: RUN is DATA", call, 2, call.call(5));
@@ -250,7 +250,7 @@ final class ActTest {
       Due.is("29: nothing is written to DATA, WORD " + i, 0, call.context(REC, 1));
     }
 
-    GranuleHall back = Scene.running();
+    GranuleHall back = Scene.running().object;
     back.delegate(RUN);
     back.undelegate(RUN);
     back.yield1();

@@ -2,14 +2,24 @@
 final class Due {
   private static int wrong = 0;
   private static int asked = 0;
+  private static String about = "";
 
   private Due() { }
+
+  /** What the next answers are about: it is printed ahead of those that are not as due. */
+  static void about(String text) {
+    about = text;
+  }
+
+  static int wrong() {
+    return wrong;
+  }
 
   static void is(String what, long want, long got) {
     asked++;
     if (got != want) {
       wrong++;
-      System.out.println(what + ": answered " + got + ", due is " + want);
+      System.out.println(about + what + ": answered " + got + ", due is " + want);
     }
   }
 

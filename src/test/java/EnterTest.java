@@ -17,7 +17,7 @@ final class EnterTest {
   }
 
   private static void enterRefused() {
-    GranuleHall h = Scene.furnished();
+    GranuleHall h = Scene.furnished().object;
     for (int bad : new int[] {-1, 48, Integer.MIN_VALUE, Integer.MAX_VALUE}) {
       Due.refused("20: rec " + bad, h, h.enter(bad, RUN), 1);
       Due.refused("20: run " + bad, h, h.enter(REC, bad), 1);
@@ -41,7 +41,7 @@ final class EnterTest {
   }
 
   private static void enter() {
-    GranuleHall h = Scene.active();
+    GranuleHall h = Scene.active().object;
     int[] run = new int[32];
     for (int i = 0; i < 32; i++) {
       run[i] = 7000 + i;
@@ -63,7 +63,7 @@ final class EnterTest {
   }
 
   private static void enterAfterCall() {
-    GranuleHall h = Scene.running();
+    GranuleHall h = Scene.running().object;
     h.call(5);
     for (int i = 0; i < 32; i++) {
       h.store(42, i, 900 + i);
@@ -83,7 +83,7 @@ final class EnterTest {
   }
 
   private static void enterAfterLostCall() {
-    GranuleHall h = Scene.running();
+    GranuleHall h = Scene.running().object;
     h.call(5);
     h.undata(RD, 5);
     Due.done("20: the PAGE is UNASSIGNED", h, h.enter(REC, RUN));
@@ -91,14 +91,14 @@ final class EnterTest {
     Due.is("20: nothing is PENDING", 0, h.context(REC, 10));
     h.yield1();
 
-    GranuleHall again = Scene.running();
+    GranuleHall again = Scene.running().object;
     again.call(5);
     again.undata(RD, 5);
     again.unknown(RD, Scene.DATA, 5);
     again.enter(REC, RUN);
     Due.is("20: ASSIGNED, DESTROYED: X0 is 1", 1, again.context(REC, 0));
 
-    GranuleHall other = Scene.running();
+    GranuleHall other = Scene.running().object;
     other.call(5);
     other.undata(RD, 5);
     other.untable(RD, 0, 3);
@@ -107,7 +107,7 @@ final class EnterTest {
   }
 
   private static void enterAfterChange() {
-    GranuleHall h = Scene.running();
+    GranuleHall h = Scene.running().object;
     h.ask(0, 2, 1);
     Due.done("20: a CHANGE not begun", h, h.enter(REC, RUN));
     Due.is("20: X0", 1, h.context(REC, 0));
@@ -129,7 +129,7 @@ final class EnterTest {
   }
 
   private static void changeRefused() {
-    GranuleHall h = Scene.running();
+    GranuleHall h = Scene.running().object;
     for (int bad : new int[] {-1, 48, Integer.MIN_VALUE, Integer.MAX_VALUE}) {
       Due.refused("21: change(" + bad + ")", h, h.change(bad), 1);
     }
@@ -156,7 +156,7 @@ final class EnterTest {
   }
 
   private static void changeOverLevels() {
-    GranuleHall h = Scene.running();
+    GranuleHall h = Scene.running().object;
     h.ask(6, 2048, 1);
     int[] nexts = {7, 8, 16, 24, 32, 40, 48, 56, 64, 128, 192, 256, 320, 384, 448, 512, 1024, 1536, 2048};
     for (int next : nexts) {
@@ -171,7 +171,7 @@ final class EnterTest {
   }
 
   private static void changeOfAssigned() {
-    GranuleHall h = Scene.running();
+    GranuleHall h = Scene.running().object;
     h.ask(5, 6, 0);
     Due.done("21: an ASSIGNED PAGE", h, 6, h.change(REC));
     Due.is("21: ASSIGNED still", 1, h.walk(RD, 5, 3, 1));

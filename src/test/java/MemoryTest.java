@@ -53,7 +53,7 @@ final class MemoryTest {
     Due.refused("3: store to a DELEGATED one", h, h.store(3, 0, 1), 2);
     Due.refused("2: word ahead of STATE", h, h.load(3, 32), 1);
     Due.refused("3: word ahead of STATE", h, h.store(3, 32, 1), 1);
-    GranuleHall all = Scene.running();
+    GranuleHall all = Scene.running().object;
     for (int g : new int[] {Scene.RD, Scene.REC, Scene.T3, Scene.DATA}) {
       Due.refused("2: load(" + g + ", 0) of a realm", all, all.load(g, 0), 2);
       Due.refused("3: store(" + g + ", 0, 7) to a realm", all, all.store(g, 0, 7), 2);
@@ -73,7 +73,7 @@ final class MemoryTest {
       Due.refused("4: delegate(" + bad + ")", h, h.delegate(bad), 1);
       Due.refused("5: undelegate(" + bad + ")", h, h.undelegate(bad), 1);
     }
-    GranuleHall all = Scene.running();
+    GranuleHall all = Scene.running().object;
     for (int g : new int[] {Scene.RD, Scene.REC, Scene.T3, Scene.DATA}) {
       Due.refused("4: delegate(" + g + ") of a realm", all, all.delegate(g), 2);
       Due.refused("5: undelegate(" + g + ") of a realm", all, all.undelegate(g), 2);
@@ -89,7 +89,7 @@ final class MemoryTest {
     h.undelegate(0);
     Due.words("4: WORDS become 0", Scene.page(), Scene.loaded(h, 0));
 
-    GranuleHall realm = Scene.active();
+    GranuleHall realm = Scene.active().object;
     realm.undata(Scene.RD, 5);
     realm.undelegate(Scene.DATA);
     Due.words("5: nothing of a realm's DATA is left", Scene.page(), Scene.loaded(realm, Scene.DATA));

@@ -18,7 +18,7 @@ final class PageTest {
   }
 
   private static void ripas() {
-    GranuleHall h = Scene.tabled();
+    GranuleHall h = Scene.tabled().object;
     for (int bad : NO_GRANULES) {
       Due.refused("14: ripas(" + bad + ", 0)", h, h.ripas(bad, 0), 1);
     }
@@ -44,7 +44,7 @@ final class PageTest {
   }
 
   private static void dataBounds() {
-    GranuleHall h = Scene.tabled();
+    GranuleHall h = Scene.tabled().object;
     h.ripas(RD, 5);
     for (int bad : NO_GRANULES) {
       Due.refused("15: rd " + bad, h, h.data(bad, 8, 5, SOURCE), 1);
@@ -74,7 +74,7 @@ final class PageTest {
   }
 
   private static void data() {
-    GranuleHall h = Scene.tabled();
+    GranuleHall h = Scene.tabled().object;
     h.ripas(RD, 5);
     int[] words = new int[32];
     for (int i = 0; i < 32; i++) {
@@ -107,7 +107,7 @@ final class PageTest {
   }
 
   private static void unknown() {
-    GranuleHall h = Scene.tabled();
+    GranuleHall h = Scene.tabled().object;
     h.store(10, 0, 1);
     h.ripas(RD, 1);
     int[] rim = Scene.measurement(h, RD, 0);
@@ -126,7 +126,7 @@ final class PageTest {
     Due.refused("16: ASSIGNED already", h, h.unknown(RD, 12, 1), 5);
     Due.is("16: DATA", 2, h.realm(RD, 4));
 
-    GranuleHall run = Scene.running();
+    GranuleHall run = Scene.running().object;
     Due.done("16: ACTIVE", run, run.unknown(RD, 10, 6));
     for (int i = 0; i < 32; i++) {
       run.fetch(1, 6, i);
@@ -138,7 +138,7 @@ final class PageTest {
   }
 
   private static void undata() {
-    GranuleHall h = Scene.furnished();
+    GranuleHall h = Scene.furnished().object;
     Due.refused("17: no such GRANULE", h, h.undata(-1, 5), 1);
     Due.refused("17: no such GRANULE", h, h.undata(48, 5), 1);
     Due.refused("17: no RD", h, h.undata(Scene.REC, 5), 2);
@@ -158,12 +158,12 @@ final class PageTest {
     h.unknown(RD, 11, 0);
     Due.done("17: from EMPTY", h, 11, h.undata(RD, 0));
     Due.is("17: EMPTY still", 0, h.walk(RD, 0, 3, 2));
-    GranuleHall off = Scene.off();
+    GranuleHall off = Scene.off().object;
     Due.done("17: of a REALM that is OFF", off, Scene.DATA, off.undata(RD, 5));
   }
 
   private static void map() {
-    GranuleHall h = Scene.tabled();
+    GranuleHall h = Scene.tabled().object;
     for (int bad : NO_GRANULES) {
       Due.refused("18: rd " + bad, h, h.map(bad, 2048, Scene.HOST), 1);
       Due.refused("18: granule " + bad, h, h.map(RD, 2048, bad), 1);
@@ -187,12 +187,12 @@ final class PageTest {
     Due.refused("18: ASSIGNED already", h, h.map(RD, 2048, Scene.HOST), 5);
     Due.is("18: no DATA by this", 1, h.realm(RD, 4));
     Due.is("18: nothing is astray by this", 0, h.astray());
-    GranuleHall off = Scene.off();
+    GranuleHall off = Scene.off().object;
     Due.done("18: of a REALM that is OFF", off, off.map(RD, 2048, Scene.HOST));
   }
 
   private static void unmap() {
-    GranuleHall h = Scene.tabled();
+    GranuleHall h = Scene.tabled().object;
     h.map(RD, 2050, Scene.HOST);
     h.map(RD, 2051, Scene.FREE);
     Due.refused("19: no such GRANULE", h, h.unmap(-1, 2050), 1);

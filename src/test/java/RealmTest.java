@@ -10,7 +10,7 @@ final class RealmTest {
   }
 
   private static void create() {
-    GranuleHall h = Scene.delegated();
+    GranuleHall h = Scene.delegated().object;
     Due.refused("6: no such RD", h, h.create(-1, 1), 1);
     Due.refused("6: no such RD", h, h.create(Scene.SIZE, 1), 1);
     Due.refused("6: no such RTT", h, h.create(0, -1), 1);
@@ -44,7 +44,7 @@ final class RealmTest {
   }
 
   private static void activate() {
-    GranuleHall h = Scene.created();
+    GranuleHall h = Scene.created().object;
     Due.refused("7: no such GRANULE", h, h.activate(-1), 1);
     Due.refused("7: no such GRANULE", h, h.activate(Scene.SIZE), 1);
     Due.refused("7: a root RTT", h, h.activate(Scene.ROOT), 2);
@@ -53,12 +53,12 @@ final class RealmTest {
     Due.done("7: activate", h, h.activate(Scene.RD));
     Due.is("7: ACTIVE", 1, h.realm(Scene.RD, 0));
     Due.refused("7: it is ACTIVE", h, h.activate(Scene.RD), 3);
-    GranuleHall off = Scene.off();
+    GranuleHall off = Scene.off().object;
     Due.refused("7: it is OFF", off, off.activate(Scene.RD), 3);
   }
 
   private static void destroy() {
-    GranuleHall h = Scene.created();
+    GranuleHall h = Scene.created().object;
     Due.refused("8: no such GRANULE", h, h.destroy(-1), 1);
     Due.refused("8: no such GRANULE", h, h.destroy(Scene.SIZE), 1);
     Due.refused("8: a root RTT", h, h.destroy(Scene.ROOT), 2);
@@ -85,7 +85,7 @@ final class RealmTest {
   }
 
   private static void rec() {
-    GranuleHall h = Scene.created();
+    GranuleHall h = Scene.created().object;
     for (int i = 0; i < 8; i++) {
       h.store(Scene.PARAMS, i, -5 * i);
     }
@@ -120,12 +120,12 @@ final class RealmTest {
     Due.refused("9: ACTIVE", h, h.rec(11, Scene.RD, Scene.PARAMS), 3);
     Due.refused("9: 2 ahead of 3", h, h.rec(11, Scene.RD, Scene.FREE), 2);
     Due.words("9: a refused one leaves the RIM", rim, Scene.measurement(h, Scene.RD, 0));
-    GranuleHall off = Scene.off();
+    GranuleHall off = Scene.off().object;
     Due.refused("9: OFF", off, off.rec(11, Scene.RD, Scene.PARAMS), 3);
   }
 
   private static void end() {
-    GranuleHall h = Scene.created();
+    GranuleHall h = Scene.created().object;
     h.rec(9, Scene.RD, Scene.PARAMS);
     h.rec(10, Scene.RD, Scene.PARAMS);
     h.rec(11, Scene.RD, Scene.PARAMS);
@@ -142,7 +142,7 @@ final class RealmTest {
     Due.refused("10: ended already", h, h.end(10), 2);
     Due.is("10: the next has a number of its own", 3, h.rec(10, Scene.RD, Scene.PARAMS));
 
-    GranuleHall run = Scene.running();
+    GranuleHall run = Scene.running().object;
     Due.refused("10: RUNNING", run, run.end(Scene.REC), 4);
     run.ask(0, 1, 0);
     Due.done("10: READY, with a PENDING", run, run.end(Scene.REC));

@@ -13,7 +13,7 @@ final class TableTest {
   }
 
   private static void tableBounds() {
-    GranuleHall h = Scene.tabled();
+    GranuleHall h = Scene.tabled().object;
     int[][] bad = {
       {-1, 20, 512, 1}, {48, 20, 512, 1}, {RD, -1, 512, 1}, {RD, 48, 512, 1},
       {RD, 20, -512, 1}, {RD, 20, 4096, 1}, {RD, 20, Integer.MIN_VALUE, 1}, {RD, 20, Integer.MAX_VALUE, 1},
@@ -42,7 +42,7 @@ final class TableTest {
   }
 
   private static void table() {
-    GranuleHall h = Scene.created();
+    GranuleHall h = Scene.created().object;
     Due.refused("11: LEVEL 2 without LEVEL 1", h, h.table(RD, 2, 512, 2), 5);
     Due.refused("11: LEVEL 3 without LEVEL 1", h, h.table(RD, 2, 512, 3), 5);
     Due.done("11: LEVEL 1", h, h.table(RD, 2, 512, 1));
@@ -70,7 +70,7 @@ final class TableTest {
   }
 
   private static void tableInherits() {
-    GranuleHall h = Scene.created();
+    GranuleHall h = Scene.created().object;
     h.ripas(RD, 1000);
     Due.is("11: 512 PAGES are RAM", 512, h.realm(RD, 5));
     h.table(RD, 2, 512, 1);
@@ -85,7 +85,7 @@ final class TableTest {
   }
 
   private static void untable() {
-    GranuleHall h = Scene.tabled();
+    GranuleHall h = Scene.tabled().object;
     Due.refused("12: no TABLE", h, h.untable(RD, 512, 1), 5);
     Due.refused("12: no TABLE of LEVEL 2", h, h.untable(RD, 512, 2), 5);
     Due.refused("12: no TABLE of LEVEL 3", h, h.untable(RD, 8, 3), 5);
@@ -110,7 +110,7 @@ final class TableTest {
   }
 
   private static void fold() {
-    GranuleHall h = Scene.tabled();
+    GranuleHall h = Scene.tabled().object;
     Due.refused("13: no TABLE", h, h.fold(RD, 512, 1), 5);
     Due.refused("13: it has a TABLE", h, h.fold(RD, 0, 2), 5);
     for (int page = 0; page < 7; page++) {
@@ -138,7 +138,7 @@ final class TableTest {
     Due.is("13: nothing is left of its ENTRIES in a REC", 8, h.realm(RD, 5));
     Due.is("13: nor astray", 0, h.astray());
 
-    GranuleHall lost = Scene.created();
+    GranuleHall lost = Scene.created().object;
     lost.table(RD, 2, 512, 1);
     lost.untable(RD, 512, 1);
     lost.table(RD, 2, 512, 1);
@@ -150,7 +150,7 @@ final class TableTest {
   }
 
   private static void anyRealm() {
-    for (GranuleHall h : new GranuleHall[] {Scene.active(), Scene.off()}) {
+    for (GranuleHall h : new GranuleHall[] {Scene.active().object, Scene.off().object}) {
       String how = " of a REALM that is " + h.realm(RD, 0);
       Due.done("11: a TABLE" + how, h, h.table(RD, 20, 8, 3));
       Due.done("13: fold" + how, h, h.fold(RD, 8, 3));

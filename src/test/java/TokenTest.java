@@ -16,7 +16,7 @@ final class TokenTest {
   }
 
   private static void wholeRim() {
-    GranuleHall h = Scene.furnished();
+    GranuleHall h = Scene.furnished().object;
     int[] words = new int[32];
     for (int i = 0; i < 32; i++) {
       words[i] = 500 + i;
@@ -35,7 +35,7 @@ final class TokenTest {
   }
 
   private static void measure() {
-    GranuleHall h = Scene.running();
+    GranuleHall h = Scene.running().object;
     for (int bad : new int[] {-1, 5, MIN, MAX}) {
       Due.done("30: measure(" + bad + ")", h, 1, h.measure(bad));
     }
@@ -53,7 +53,7 @@ final class TokenTest {
   }
 
   private static void extend() {
-    GranuleHall h = Scene.running();
+    GranuleHall h = Scene.running().object;
     int[] rim = Scene.measurement(h, RD, 0);
     for (int bad : new int[] {-1, 0, 5, MIN, MAX}) {
       Due.done("31: extend(" + bad + ")", h, 1, h.extend(bad));
@@ -83,7 +83,7 @@ final class TokenTest {
   }
 
   private static void attest() {
-    GranuleHall h = Scene.running();
+    GranuleHall h = Scene.running().object;
     h.extend(1);
     h.extend(1);
     h.extend(3);
@@ -102,7 +102,7 @@ final class TokenTest {
   }
 
   private static void attestElsewhere() {
-    GranuleHall h = Scene.running();
+    GranuleHall h = Scene.running().object;
     h.map(RD, 2050, Scene.HOST);
     for (int bad : new int[] {-1, 2048, 2050, 4095, 4096, MIN, MAX}) {
       Due.done("32: attest(" + bad + ")", h, 1, h.attest(bad));

@@ -18,7 +18,7 @@ final class ToldTest {
   }
 
   private static void granule() {
-    GranuleHall h = Scene.running();
+    GranuleHall h = Scene.running().object;
     int[][] want = {
       {Scene.HOST, 0, -1, -1}, {Scene.FREE, 1, -1, -1}, {RD, 2, RD, -1}, {REC, 3, RD, 0}, {Scene.ROOT, 4, RD, 0},
       {Scene.T1, 4, RD, 1}, {Scene.T2, 4, RD, 2}, {Scene.U3, 4, RD, 3}, {Scene.DATA, 5, RD, 5}, {47, 0, -1, -1}
@@ -34,7 +34,7 @@ final class ToldTest {
     for (int bad : new int[] {-1, 48, MIN, MAX}) {
       Due.is("33: granule(" + bad + ", 0)", -1, h.granule(bad, 0));
     }
-    GranuleHall two = Scene.delegated();
+    GranuleHall two = Scene.delegated().object;
     two.create(5, 6);
     two.create(7, 8);
     two.table(7, 9, 0, 1);
@@ -45,7 +45,7 @@ final class ToldTest {
   }
 
   private static void realm() {
-    GranuleHall h = Scene.running();
+    GranuleHall h = Scene.running().object;
     h.unknown(RD, 10, 0);
     int[] want = {1, Scene.ROOT, 1, 7, 2, 2, 1};
     for (int what = 0; what < want.length; what++) {
@@ -68,7 +68,7 @@ final class ToldTest {
   }
 
   private static void walk() {
-    GranuleHall h = Scene.running();
+    GranuleHall h = Scene.running().object;
     h.map(RD, 2049, Scene.HOST);
     int[][] want = {
       {5, 0, 0, 2, 0, Scene.T1}, {5, 1, 1, 2, 0, Scene.T2}, {5, 2, 2, 2, 0, Scene.T3}, {5, 3, 3, 1, 1, Scene.DATA},
@@ -94,7 +94,7 @@ final class ToldTest {
   }
 
   private static void context() {
-    GranuleHall h = Scene.running();
+    GranuleHall h = Scene.running().object;
     int[] want = {100, 101, 102, 103, 104, 105, 106, 107, 1, 1, 0, -1, -1, 1};
     for (int what = 0; what < want.length; what++) {
       Due.is("36: context(rec, " + what + ")", want[what], h.context(REC, what));
@@ -122,7 +122,7 @@ final class ToldTest {
   }
 
   private static void measured() {
-    GranuleHall h = Scene.created();
+    GranuleHall h = Scene.created().object;
     int[] rim = Sha.of(1, Scene.SIZE);
     for (int k = 0; k < 8; k++) {
       Due.is("37: measured(0, 0, " + k + ")", rim[k], h.measured(RD, 0, k));
@@ -140,7 +140,7 @@ final class ToldTest {
   }
 
   private static void count() {
-    GranuleHall h = Scene.active();
+    GranuleHall h = Scene.active().object;
     int[] want = {48, 24, 14, 1, 1, 7, 1, -1, 1, 0, 0};
     for (int what = 0; what < want.length; what++) {
       Due.is("38: count(" + what + ")", want[what], h.count(what));
@@ -171,7 +171,7 @@ final class ToldTest {
   }
 
   private static void tellingLeavesStatus() {
-    GranuleHall h = Scene.active();
+    GranuleHall h = Scene.active().object;
     h.activate(RD);
     int[] told = {
       h.status(), h.granule(0, 0), h.granule(-1, 0), h.realm(RD, 0), h.realm(-1, 0), h.walk(RD, 5, 3, 0),
@@ -198,7 +198,7 @@ final class ToldTest {
   }
 
   private static void astray() {
-    GranuleHall h = Scene.running();
+    GranuleHall h = Scene.running().object;
     Due.is("40: RUNNING", 0, h.astray());
     h.map(RD, 2048, Scene.DATA);
     h.map(RD, 2049, Scene.DATA);
