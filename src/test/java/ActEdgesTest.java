@@ -82,7 +82,8 @@ final class ActEdgesTest {
     }
     Edge.test(quote, "the WORDS beside it stay, and the register", () -> Scene.running().done(0, "put", 2, 5, 8)
         .tells(102, "context", REC, 2).done(0, "fetch", 1, 5, 7).tells(507, "context", REC, 1)
-        .done(0, "fetch", 1, 5, 9).tells(509, "context", REC, 1).done(0, "fetch", 1, 5, 8).tells(102, "context", REC, 1));
+        .done(0, "fetch", 1, 5, 9).tells(509, "context", REC, 1).done(0, "fetch", 1, 5, 8)
+        .tells(102, "context", REC, 1));
     Edge.actFaults(quote, Scene::running, Edge.NO_REGISTERS, "put", 0, 0, 5, 0);
     Edge.actFaults(quote, Scene::running, Edge.NO_PAGES, "put", 1, 0, 5, 0);
     Edge.actFaults(quote, Scene::running, Edge.NO_WORDS, "put", 2, 0, 5, 0);

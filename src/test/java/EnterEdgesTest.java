@@ -117,7 +117,8 @@ final class EnterEdgesTest {
   }
 
   private static void changeRefused() {
-    String quote = "1, 2; 4: no CHANGE is PENDING, or NEXT is to; 5: the ENTRY begins ahead of NEXT, or ends behind to.";
+    String quote =
+        "1, 2; 4: no CHANGE is PENDING, or NEXT is to; 5: the ENTRY begins ahead of NEXT, or ends behind to.";
     Edge.noGranule(quote, () -> asked(0, 1, 1), "change", 0, REC);
     Edge.otherStates(quote, () -> asked(0, 1, 1), IS_REC, "change", 0, REC);
     Edge.refused(quote, "nothing is PENDING, never entered", Scene::active, 4, "change", REC);

@@ -244,9 +244,9 @@ final class HostEdgesTest {
         .tells(0, "context", REC, 10).tells(-1, "context", REC, 11).tells(-1, "context", REC, 12)
         .tells(0, "context", REC, 13).tells(-1, "count", 7));
     Edge.test(becomes, "nothing is left of one that was there", () -> Scene.created().with("store", PARAMS, 8, 1)
-        .with("rec", REC, RD, PARAMS).with("activate", RD).with("enter", REC, RUN).with("move", 3, 9).with("ask", 0, 8, 1)
-        .with("end", REC).with("create", Scene.RD2, Scene.ROOT2).done(0, "rec", REC, Scene.RD2, PARAMS)
-        .tells(0, "context", REC, 3).tells(0, "context", REC, 10).tells(0, "context", REC, 13));
+        .with("rec", REC, RD, PARAMS).with("activate", RD).with("enter", REC, RUN).with("move", 3, 9)
+        .with("ask", 0, 8, 1).with("end", REC).with("create", Scene.RD2, Scene.ROOT2)
+        .done(0, "rec", REC, Scene.RD2, PARAMS).tells(0, "context", REC, 3).tells(0, "context", REC, 10).tells(0, "context", REC, 13));
     Edge.test("Its number.", "as many as there is room for", () -> {
       Hall h = new Hall(16);
       for (int g = 0; g < 15; g++) {

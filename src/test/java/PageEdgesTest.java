@@ -35,7 +35,8 @@ final class PageEdgesTest {
   }
 
   private static void ripas() {
-    String quote = "In a NEW REALM the LEAF of a PROTECTED PAGE, UNASSIGNED, becomes RAM: its SPAN; the RIM is EXTENDED.";
+    String quote =
+        "In a NEW REALM the LEAF of a PROTECTED PAGE, UNASSIGNED, becomes RAM: its SPAN; the RIM is EXTENDED.";
     int[][] spans = {
       {0, 1}, {7, 1}, {8, 8}, {63, 8}, {64, 64}, {511, 64}, {512, 512}, {1535, 512}, {1536, 512}, {2047, 512}
     };
@@ -125,7 +126,7 @@ final class PageEdgesTest {
     Edge.refused(quote, "OFF", Scene::off, 3, "data", RD, FREE, 6, SOURCE);
     Edge.refused(quote, "EMPTY", Scene::furnished, 5, "data", RD, FREE, 4, SOURCE);
     Edge.refused(quote, "DESTROYED", () -> Scene.furnished().with("undata", RD, 5), 5, "data", RD, FREE, 5, SOURCE);
-    Edge.refused(quote, "ASSIGNED, RAM", Scene::furnished, 5, "data", RD, FREE, 5, SOURCE);
+    Edge.refused(quote, "ASSIGNED, RAM", Scene::furnished, 5, "data", RD, FREE, 5, HOST);
     Edge.refused(quote, "RAM of LEVEL 2", PageEdgesTest::wide, 5, "data", RD, FREE, 8, SOURCE);
     Edge.refused(quote, "RAM of LEVEL 1", PageEdgesTest::wide, 5, "data", RD, FREE, 64, SOURCE);
     Edge.refused(quote, "RAM of LEVEL 0", PageEdgesTest::wide, 5, "data", RD, FREE, 512, SOURCE);
@@ -179,7 +180,8 @@ final class PageEdgesTest {
   }
 
   private static void undata() {
-    String quote = "The LEAF of a PROTECTED PAGE, ASSIGNED, becomes UNASSIGNED, from RAM DESTROYED; its GRANULE DELEGATED";
+    String quote =
+        "The LEAF of a PROTECTED PAGE, ASSIGNED, becomes UNASSIGNED, from RAM DESTROYED; its GRANULE DELEGATED";
     Edge.test(quote, "from RAM", () -> Scene.furnished().done(DATA, "undata", RD, 5).tells(2, "walk", RD, 5, 3, 2)
         .tells(0, "walk", RD, 5, 3, 1).tells(-1, "walk", RD, 5, 3, 3).tells(1, "granule", DATA, 0)
         .tells(-1, "granule", DATA, 1).tells(-1, "granule", DATA, 2).tells(0, "realm", RD, 4).tells(1, "realm", RD, 5));
@@ -208,7 +210,8 @@ final class PageEdgesTest {
   }
 
   private static void map() {
-    String quote = "The LEAF, of LEVEL 3, UNASSIGNED, of a PAGE that is not PROTECTED is ASSIGNED to a GRANULE (of any STATE).";
+    String quote =
+        "The LEAF, of LEVEL 3, UNASSIGNED, of a PAGE that is not PROTECTED is ASSIGNED to a GRANULE (of any STATE).";
     for (int page : new int[] {2048, 2055, 4088, 4095}) {
       Edge.test(quote, "PAGE " + page, () -> Scene.ends().yes("map", RD, page, HOST).tells(1, "walk", RD, page, 3, 1)
           .tells(0, "walk", RD, page, 3, 2).tells(HOST, "walk", RD, page, 3, 3).tells(0, "granule", HOST, 0)

@@ -249,7 +249,8 @@ final class RecEdgesTest {
   }
 
   private static void reachProtected() {
-    String quote = "REACHING a PAGE: PROTECTED: its LEAF: EMPTY: FAULT; else ASSIGNED and RAM: its GRANULE; else ABORT.";
+    String quote =
+        "REACHING a PAGE: PROTECTED: its LEAF: EMPTY: FAULT; else ASSIGNED and RAM: its GRANULE; else ABORT.";
     for (int page : EMPTY_PAGES) {
       Edge.faults(quote, "fetch at " + page + ", EMPTY", Scene::reaching, "fetch", 0, page, 0);
       Edge.faults(quote, "put at " + page + ", EMPTY", Scene::reaching, "put", 0, page, 0);

@@ -33,7 +33,8 @@ final class TableEdgesTest {
   }
 
   private static void table() {
-    String quote = "An RTT of LEVEL 1 .. 3 where the ENTRY of the LEVEL above is UNASSIGNED: rtt, DELEGATED, becomes it";
+    String quote =
+        "An RTT of LEVEL 1 .. 3 where the ENTRY of the LEVEL above is UNASSIGNED: rtt, DELEGATED, becomes it";
     for (int page = 0; page < 4096; page += 512) {
       int first = page;
       Edge.test(quote, "LEVEL 1 at PAGE " + first, () -> Scene.created().yes("table", RD, FREE, first, 1)
@@ -130,7 +131,8 @@ final class TableEdgesTest {
     for (int[] f : firsts) {
       Edge.test(quote, "LEVEL 1 at PAGE " + f[0], () -> Scene.created().with("table", RD, FREE, f[0], 1)
           .yes("untable", RD, f[0], 1).tells(0, "walk", RD, f[0], 3, 0).tells(0, "walk", RD, f[0], 3, 1)
-          .tells(f[1], "walk", RD, f[0], 3, 2).tells(f[1], "walk", RD, f[0] + 511, 3, 2).tells(-1, "walk", RD, f[0], 3, 3));
+          .tells(f[1], "walk", RD, f[0], 3, 2).tells(f[1], "walk", RD, f[0] + 511, 3, 2)
+          .tells(-1, "walk", RD, f[0], 3, 3));
     }
     Edge.test(quote, "LEVEL 3 at the last PAGES that are PROTECTED, and at the last", () -> Scene.ends()
         .yes("untable", RD, 2040, 3).tells(2, "walk", RD, 2047, 3, 2).tells(2, "walk", RD, 2047, 3, 0)

@@ -87,6 +87,14 @@ final class ToldEdgesTest {
         .with("ripas", RD, 1536).tells(2048, "realm", RD, 5));
     Edge.test("5 PAGES that are RAM", "of all LEVELS, those of a TABLE once", () -> Scene.reaching()
         .tells(2 + 8 + 64 + 512, "realm", RD, 5));
+    Edge.test("5 PAGES that are RAM", "not those of an RTT that ended, whatever its GRANULE is now", () -> {
+      Hall h = Scene.tabled();
+      for (int page = 0; page < 8; page++) {
+        h.with("ripas", RD, page);
+      }
+      h.with("fold", RD, 0, 3).tells(8, "realm", RD, 5).with("rec", Scene.T3, RD, Scene.PARAMS);
+      h.tells(8, "realm", RD, 5);
+    });
     String none = "NONE for others, or if there is none such (what 0 tells how it is).";
     for (int what : new int[] {-1, 7, Edge.MIN, Edge.MAX}) {
       Edge.tells(none, "what " + what, Scene::crowd, -1, "realm", RD, what);
@@ -101,7 +109,8 @@ final class ToldEdgesTest {
   }
 
   private static void walk() {
-    String quote = "0 the LEVEL where it ends, 1 the ENTRY there (0, 1, 2), 2 its RIPAS, 3 its GRANULE (NONE of UNASSIGNED)";
+    String quote =
+        "0 the LEVEL where it ends, 1 the ENTRY there (0, 1, 2), 2 its RIPAS, 3 its GRANULE (NONE of UNASSIGNED)";
     int[][] want = {
       {5, 0, 0, 2, 0, Scene.T1}, {5, 1, 1, 2, 0, Scene.T2}, {5, 2, 2, 2, 0, Scene.T3}, {5, 3, 3, 1, 1, Scene.DATA},
       {6, 3, 3, 0, 1, -1}, {0, 3, 3, 0, 0, -1}, {7, 3, 3, 0, 0, -1}, {8, 3, 2, 0, 0, -1}, {63, 3, 2, 0, 0, -1},

@@ -18,13 +18,14 @@ final class Twins {
     Due.is(what + ": count(10)", first.again().ask("count", 10) + faults, second.again().ask("count", 10));
     compare(what, first, second, Twins::granules);
     compare(what, first, second, Twins::contexts);
-    compare(what, first, second, Twins::protectedWords);
     compare(what, first, second, Twins::pending);
     for (int g = 0; g < first.size; g++) {
-      int rd = g;
+      int of = g;
       if (first.object.granule(g, 0) == 2) {
-        compare(what, first, second, h -> realm(h, rd));
-        compare(what, first, second, h -> walks(h, rd));
+        compare(what, first, second, h -> realm(h, of));
+        compare(what, first, second, h -> walks(h, of));
+      } else if (first.object.granule(g, 0) == 5) {
+        compare(what, first, second, h -> dataWords(h, of));
       }
     }
     for (int g = 0; g < first.size; g += LOADED_AT_ONCE) {
@@ -117,20 +118,36 @@ final class Twins {
     return GranuleHall.NONE;
   }
 
-  /** What the DATA holds that is told by none: a REC has to fetch it. */
-  private static void protectedWords(Hall h) {
-    int data = firstOf(h, 5);
-    int run = firstOf(h, 0);
-    int rec = h.ask("count", 7);
-    if (rec == GranuleHall.NONE) {
-      rec = firstOf(h, 3);
-      h.ask("enter", rec, run);
-    }
+  /** What DATA holds, which is told by none: a REC has to fetch it, once its PAGE is RAM. */
+  private static void dataWords(Hall h, int data) {
+    int rd = h.ask("granule", data, 1);
     int page = h.ask("granule", data, 2);
+    int run = firstOf(h, 0);
+    h.ask("yield1");
+    int rec = runnable(h, rd);
+    if (rec == GranuleHall.NONE) {
+      rec = firstOf(h, 1);
+      h.ask("store", run, 8, 1);
+      h.ask("rec", rec, rd, run);
+    }
+    h.ask("activate", rd);
+    h.ask("enter", rec, run);
+    h.ask("ask", page, page + 1, 1);
+    h.ask("change", rec);
+    h.ask("enter", rec, run);
     for (int word = 0; word < 32; word++) {
       h.ask("fetch", 7, page, word);
       h.ask("context", rec, 7);
     }
+  }
+
+  private static int runnable(Hall h, int rd) {
+    for (int g = 0; g < h.size; g++) {
+      if (h.ask("granule", g, 1) == rd && h.ask("context", g, 8) == 1) {
+        return g;
+      }
+    }
+    return GranuleHall.NONE;
   }
 
   /** What is PENDING, and the RUN that a RUNNING one keeps. */
