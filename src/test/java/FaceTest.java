@@ -8,7 +8,7 @@ import java.util.TreeSet;
 
 /** The public face is the document's: its constant, constructor and methods, and no other member to be seen. */
 final class FaceTest {
-  private static final String[] FACE = {
+  static final String[] FACE = {
     "int load(int,int)", "boolean store(int,int,int)", "boolean delegate(int)", "boolean undelegate(int)",
     "boolean create(int,int)", "boolean activate(int)", "boolean destroy(int)", "int rec(int,int,int)",
     "boolean end(int)", "boolean table(int,int,int,int)", "boolean untable(int,int,int)", "boolean fold(int,int,int)",
